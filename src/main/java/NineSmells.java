@@ -20,6 +20,7 @@ public final class NineSmells {
     private static final int LAST_YEAR = 99, MOST_FADING = 999, MOST_COLD = 9, MOST_FLOOD = 9;
     private static final int MOST_STRENGTH = 9, MOST_STOPPERS = 10, MOST_NEAR = 10;
     private static final int DOOR_HOURS = 10, MOST_WIND = 3, MOST_LEFT = 99;
+    private static final int NOT_SOUGHT = -1;
     private static final int PAPER_TIMES = 4, ALIKE_TIMES = 8, DOOR_TIMES = 8;
 
     private static final int PERSON_BODY = 1, FIELD_BODY = 2, SEAL_BODY = 3, LENT_BODY = 4, OWN_BODY = 5;
@@ -65,7 +66,7 @@ public final class NineSmells {
 
     /** One who signs. */
     private static final class Sign {
-        private int kind;
+        private int kind, total;
         private final int[] strength = new int[SMELLS];
     }
 
@@ -205,8 +206,11 @@ public final class NineSmells {
         for (int x = 0; x < signCount; x++) {
             int letter = from + x * SIGN_STEP;
             signs[x].kind = kindOf(sheet.cells[letter]);
+            signs[x].total = 0;
             for (int smell = 0; smell < SMELLS; smell++) {
-                signs[x].strength[smell] = sheet.cells[letter + 1 + smell] - '0';
+                int strength = sheet.cells[letter + 1 + smell] - '0';
+                signs[x].strength[smell] = strength;
+                signs[x].total += strength;
             }
         }
     }
@@ -216,6 +220,7 @@ public final class NineSmells {
         thisYear = 0;
         bound = FIRST_BOUND;
         Arrays.fill(halves, FIRST_HALF);
+        newSmell[0] = NOT_SOUGHT;
     }
 
     private int fade(Sign sign, int smell, int v, int years) {
@@ -518,11 +523,9 @@ public final class NineSmells {
         if (signCount == 0) {
             return STATE;
         }
-        newSmell[0] = -1;
-        for (int first = 0; first < SMELLS; first++) {
-            for (int second = first + 1; second < SMELLS; second++) {
-                tryStrengths(first, second);
-            }
+        // It hangs on the SIGNS alone, so one search for a REGISTER is enough.
+        if (newSmell[0] == NOT_SOUGHT) {
+            seekNewSmell();
         }
         return newSmell[what];
     }
@@ -567,6 +570,14 @@ public final class NineSmells {
         return sign.strength[smell] + more * h / MOST_NEAR;
     }
 
+    private void seekNewSmell() {
+        for (int first = 0; first < SMELLS; first++) {
+            for (int second = first + 1; second < SMELLS; second++) {
+                tryStrengths(first, second);
+            }
+        }
+    }
+
     /** Keeps in newSmell the best so far of all strengths of two SMELLS. */
     private void tryStrengths(int first, int second) {
         for (int u = 0; u <= MOST_STRENGTH; u++) {
@@ -583,13 +594,13 @@ public final class NineSmells {
         }
     }
 
+    /** How far a smell of two SMELLS, strong by u and v, is from the SIGN that is the least APART from it. */
     private int leastApart(int first, int second, int u, int v) {
-        Arrays.fill(strengths, 0);
-        strengths[first] = u;
-        strengths[second] = v;
         int least = Integer.MAX_VALUE;
         for (int x = 0; x < signCount; x++) {
-            least = Math.min(least, apartOf(strengths, signs[x].strength));
+            int[] strength = signs[x].strength;
+            int others = signs[x].total - strength[first] - strength[second];
+            least = Math.min(least, others + Math.abs(u - strength[first]) + Math.abs(v - strength[second]));
         }
         return least;
     }

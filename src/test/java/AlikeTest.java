@@ -244,5 +244,9 @@ public final class AlikeTest {
         Checks.enter(x, middle);
         // 0 and 1 to 0 and 7 are there; 0 and 8 are 18 from all, as are 1 and 2.
         dueFresh(x, middle, 18, 0, 8, 9, 9);
+        C.due("a bad text", Checks.enter(x, "p"), -101);
+        dueFresh(x, "the same SIGNS still", 18, 0, 8, 9, 9);
+        Checks.enter(x, one);
+        C.due("fresh(2) of " + one, x.fresh(2), 3);
     }
 }

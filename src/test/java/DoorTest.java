@@ -10,6 +10,9 @@ public final class DoorTest {
         most();
         noneMayBe();
         otherHalves();
+        oneHour();
+        fewerSigns();
+        eachNumber();
         refused();
         faulty();
         C.end();
@@ -123,6 +126,51 @@ public final class DoorTest {
         // What is left does not fade by years.
         x.year(50);
         dueOdds(x, 0, 0, 1, 11);
+    }
+
+    private static void oneHour() {
+        NineSmells x = Checks.registered("p000000000;p900000000");
+        x.half(0, 1);
+        x.bound(0);
+        // 18 is left of 72 in hour 2 alone.
+        Checks.row(x, 0, 0, 18, 0, 0, 0, 0, 0, 0, 0, 0);
+        dueOdds(x, 1, 0, 1, 1);
+        C.dueFault(x, "who, of one hour", x.who(0, 0, 0, 0), 1);
+        x.bound(54);
+        // All ten hours of 0, and all ten of 1.
+        dueOdds(x, 1, 0, 1, 2);
+    }
+
+    private static void fewerSigns() {
+        NineSmells x = Checks.registered("p000000000;p100000000;s010000000;s200000000;"
+            + "s300000000;s400000000;s500000000;s900000000");
+        x.bound(0);
+        Checks.row(x, 0, 0, 72, 0, 0, 0, 0, 0, 0, 0, 0);
+        C.dueFault(x, "who of eight", x.who(0, 0, 0, 0), 7);
+        Checks.row(x, 0, 0, 0, 8, 0, 0, 0, 0, 0, 0, 0);
+        C.dueFault(x, "who of eight", x.who(0, 0, 0, 0), 2);
+        Checks.enter(x, "p000000000;p900000000");
+        x.bound(0);
+        C.dueFault(x, "who of two", x.who(0, 0, 0, 0), -9);
+        x.put(0, 1, 0);
+        dueOdds(x, 0, 0, 1, 1);
+    }
+
+    private static void eachNumber() {
+        NineSmells x = Checks.registered(THREE);
+        x.bound(999);
+        Checks.row(x, 0, 1, 0, 99, 0, 0, 0, 0, 0, 0, 0, 0, 0, -1);
+        for (int i = 1; i <= 9; i++) {
+            x.put(0, i, 99);
+            C.dueFault(x, "99 in cell " + i, x.who(0, 0, 1, 1), 0);
+            x.put(0, i, 100);
+            C.dueFault(x, "100 in cell " + i, x.who(0, 0, 1, 1), -2);
+            C.dueLost(x, "100 in cell " + i, x.odds(0, 0, 0, 1, 1, 0), 0);
+            x.put(0, i, -1);
+            C.dueFault(x, "-1 in cell " + i, x.who(0, 0, 1, 1), -2);
+            C.dueLost(x, "-1 in cell " + i, x.odds(0, 0, 0, 1, 1, 0), 0);
+            x.put(0, i, 0);
+        }
     }
 
     private static void refused() {

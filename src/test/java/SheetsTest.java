@@ -15,6 +15,7 @@ public final class SheetsTest {
         traceWraps();
         as();
         fault();
+        faultIsForgotten();
         C.end();
     }
 
@@ -274,5 +275,64 @@ public final class SheetsTest {
         C.dueFault(x, "a sheet", x.sheet(0, 0, 9), 1);
         C.dueFault(x, "put beyond", x.put(0, 9, 0), Checks.INDEX);
         C.dueFault(x, "put", x.put(0, 8, 0), 1);
+    }
+
+    /** An object whose latest FAULT is INDEX. */
+    private static NineSmells faulted() {
+        NineSmells x = Checks.registered("p400000000;f700000009;s600000000");
+        Checks.row(x, 0, 0, 1, 1, 1, 1, 1, 1, 1, 1, 1);
+        x.put(0, -1, 0);
+        C.due("a fault ahead", x.fault(), 3);
+        return x;
+    }
+
+    /** Calls that name FAULTS tell 0, if they come to none or are refused. */
+    private static void faultIsForgotten() {
+        NineSmells x = faulted();
+        C.dueFault(x, "register, no sheet", x.register(4, 0, 0, 9), -1);
+        x = faulted();
+        C.dueFault(x, "register, no lane", x.register(0, 3, 0, 9), -2);
+        x = faulted();
+        C.dueFault(x, "register, no text", x.register(0, 0, 0, 9), -100);
+        x = faulted();
+        C.dueFault(x, "register", x.register(3, 2, 0, 32), 3);
+        x = faulted();
+        C.dueFault(x, "forged, no sign", x.forged(0, 0, 0, 0, 0, 0), -1);
+        x = faulted();
+        C.dueFault(x, "forged", x.forged(0, 1, 0, 0, 0, 0), -9);
+        x = faulted();
+        C.dueLost(x, "odds, no sign", x.odds(9, 0, 0, 0, 0, 0), 0);
+        x = faulted();
+        C.due("odds", x.odds(0, 0, 0, 0, 0, 0), 1);
+        C.due("fault() after odds", x.fault(), 0);
+        x = faulted();
+        C.dueFault(x, "who, no sheet", x.who(0, 4, 0, 0), -1);
+        x = faulted();
+        C.dueFault(x, "who", x.who(0, 0, 0, 0), 0);
+        x = faulted();
+        C.dueFault(x, "sheet, no sheet", x.sheet(4, 0, 0), -1);
+        x = faulted();
+        C.dueFault(x, "sheet, too many", x.sheet(0, 0, 91), -2);
+        x = faulted();
+        C.dueFault(x, "sheet", x.sheet(0, 0, 9), 1);
+        x = faulted();
+        C.dueFault(x, "put, no sheet", x.put(4, 0, 0), -1);
+        x = faulted();
+        C.dueFault(x, "put", x.put(0, 0, 0), 1);
+        x = faulted();
+        C.dueLost(x, "cell, no sheet", x.cell(4, 0, 0), 0);
+        x = faulted();
+        C.due("cell", x.cell(0, 0, 0), 1);
+        C.due("fault() after cell", x.fault(), 0);
+        x = faulted();
+        C.dueFault(x, "copy, no sheet", x.copy(4, 0, 0, 0, 0), -1);
+        x = faulted();
+        C.dueFault(x, "copy", x.copy(0, 0, 0, 1, 2), 2);
+        x = faulted();
+        C.dueFault(x, "as, no sign", x.as(9, 0), -1);
+        x = faulted();
+        C.dueFault(x, "as, no kind", x.as(0, 3), -2);
+        x = faulted();
+        C.dueFault(x, "as", x.as(0, 0), 1);
     }
 }
