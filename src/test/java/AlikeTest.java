@@ -225,6 +225,9 @@ public final class AlikeTest {
         String last = "p999999900;f999999900";
         Checks.enter(x, last);
         dueFresh(x, last, 81, 7, 8, 9, 9);
+        String most = "p999999990;s999999990";
+        Checks.enter(x, most);
+        dueFresh(x, most, 81, 0, 8, 0, 9);
         String full = "p999999999;s999999999";
         Checks.enter(x, full);
         dueFresh(x, full, 81, 0, 1, 0, 0);
