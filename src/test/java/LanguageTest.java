@@ -16,16 +16,11 @@ public final class LanguageTest {
     private static final Path SOURCE = Path.of("src", "main", "java", "NineSmells.java");
     private static final Path DOCUMENT = Path.of("..", "shared", "DOC.md");
 
-    public static void main(String[] args) throws IOException {
-        constants();
-        face();
-        members();
-        words();
-        lengths();
-        C.end();
+    public static void main(String[] args) {
+        C.run(LanguageTest.class);
     }
 
-    private static void constants() {
+    static void constants() {
         C.due("UNKNOWN", NineSmells.UNKNOWN, -1);
         C.due("OUTSIDE", NineSmells.OUTSIDE, -2);
         C.due("STATE", NineSmells.STATE, -3);
@@ -35,7 +30,7 @@ public final class LanguageTest {
     }
 
     /** The methods that the document's Java lines tell, and no others, are public. */
-    private static void face() throws IOException {
+    static void face() throws IOException {
         Set<String> told = new TreeSet<>();
         for (String line : Files.readAllLines(DOCUMENT)) {
             String text = line.trim();
@@ -55,7 +50,7 @@ public final class LanguageTest {
         C.due("how many methods are told", told.size(), 34);
     }
 
-    private static void members() {
+    static void members() {
         C.due("final", Modifier.isFinal(NineSmells.class.getModifiers()) ? 1 : 0, 1);
         Set<String> names = new TreeSet<>();
         for (Method m : NineSmells.class.getDeclaredMethods()) {
@@ -88,7 +83,7 @@ public final class LanguageTest {
         }
     }
 
-    private static void words() throws IOException {
+    static void words() throws IOException {
         String source = Files.readString(SOURCE);
         String[] banned = {"throw", "throws", "try", "catch", "synchronized", "assert", "package", "hashCode", "equals",
             "toString", "Exception", "Error", "Object", "System.out", "System.err", "Random", "Thread", "native",
@@ -106,7 +101,7 @@ public final class LanguageTest {
     }
 
     /** Methods stay below sixty lines: from a line that begins one to the brace that ends it. */
-    private static void lengths() throws IOException {
+    static void lengths() throws IOException {
         List<String> lines = Files.readAllLines(SOURCE);
         int begun = -1;
         for (int k = 0; k < lines.size(); k++) {

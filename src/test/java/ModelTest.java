@@ -8,7 +8,8 @@ import java.util.Random;
 
 /** Runs of calls, drawn by fixed seeds, whose answers are those of PlainModel. */
 public final class ModelTest {
-    private static final int RUNS = 600, CALLS = 512;
+    /** Nothing is promised of what an object answers behind so many CALLS. */
+    private static final int RUNS = 900, CALLS = 512;
 
     /** Each call by its name and what each of its numbers is: a range that is mostly kept to. */
     private static final String[] CALL_LINES = {
@@ -64,13 +65,14 @@ public final class ModelTest {
     private void go() {
         while (calls < CALLS && !failed) {
             int dice = random.nextInt(100);
-            if (dice < 2 || calls < CALLS / 2 && tested.many(0) == 0 && dice < 12) {
+            if (dice < 2 || calls < CALLS / 2 && model.many(0) == 0 && dice < 12) {
                 text();
             } else if (dice < 6) {
                 row();
             } else {
                 anyCall();
             }
+            look();
         }
     }
 
@@ -88,11 +90,15 @@ public final class ModelTest {
         Object got = answer(TESTED.get(name), tested, asked);
         Object want = answer(MODEL.get(name), model, asked);
         log.add(line + " = " + got);
-        failed = !want.equals(got) || tested.fault() != model.fault() || tested.trace() != model.trace();
+        failed = !want.equals(got);
         if (failed) {
-            System.out.println("answered " + got + ", the model " + want + "; fault " + tested.fault() + ", "
-                + model.fault() + "; trace " + tested.trace() + ", " + model.trace() + ": " + log);
+            System.out.println("answered " + got + ", the model " + want + ": " + log);
         }
+    }
+
+    private void look() {
+        call("fault");
+        call("trace");
     }
 
     private static Object answer(Method method, Object of, Object[] asked) {
@@ -117,9 +123,9 @@ public final class ModelTest {
     private int number(String call, String of) {
         switch (of) {
             case "x":
-                return within(0, Math.max(0, tested.many(0) - 1));
+                return within(0, Math.max(0, model.many(0) - 1));
             case "p":
-                return within(0, Math.max(0, tested.many(1) - 1));
+                return within(0, Math.max(0, model.many(1) - 1));
             case "smell":
                 return within(0, 8);
             case "what8":
@@ -191,7 +197,7 @@ public final class ModelTest {
         int sign = random.nextInt(8);
         boolean door = random.nextBoolean();
         for (int i = 0; i < numbers.length; i++) {
-            int strength = Math.max(0, tested.ofSign(sign, i % 9));
+            int strength = Math.max(0, model.ofSign(sign, i % 9));
             int stopper = i % 2 == 0 ? random.nextInt(9) : 1 + random.nextInt(9);
             numbers[i] = door ? 8 * strength >> random.nextInt(3) : stopper;
         }
@@ -200,7 +206,7 @@ public final class ModelTest {
             call("who", within(0, 3), k, model.lane(k), within(0, 1));
             call("odds", sign, within(0, 3), k, model.lane(k), within(0, 1), within(0, 1));
         } else {
-            int last = Math.max(0, tested.many(0) - 1);
+            int last = Math.max(0, model.many(0) - 1);
             call("forged", within(0, last), within(0, last), k, model.lane(k), 0, within(0, numbers.length / 2));
         }
     }
