@@ -553,7 +553,9 @@ final class PlainModel {
         if (no(lane, 3) || n > 90) {
             return refuse(-2);
         }
-        int f = stopped(() -> rows[k] = lane == 0 ? (Object) new byte[n] : lane == 1 ? (Object) new short[n] : new int[n]);
+        int f = stopped(() -> {
+            rows[k] = lane == 0 ? (Object) new byte[n] : lane == 1 ? (Object) new short[n] : new int[n];
+        });
         return f == 0 ? 1 : -10 - f;
     }
 

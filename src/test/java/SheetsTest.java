@@ -68,8 +68,8 @@ public final class SheetsTest {
     }
 
     /**
-     * Term SHEETS: "of a LANE: 0 bytes, 1 shorts, 2 ints; what comes to a cell of it is cut to its LANE (with its sign).":
-     * the ends of each LANE, and what is just beyond them.
+     * Term SHEETS: "of a LANE: 0 bytes, 1 shorts, 2 ints; what comes to a cell of it is cut to its LANE",
+     * "(with its sign).": the ends of each LANE, and what is just beyond them.
      */
     static void cellsAreCut() {
         NineSmells x = new NineSmells();

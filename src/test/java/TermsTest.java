@@ -144,40 +144,94 @@ public final class TermsTest {
         C.dueLost(x, "cell: OUTSIDE, INDEX", x.cell(0, -1, 3), 0);
     }
 
-    /** Term REFUSALS: "They change nothing", of the parts 1 to 3. */
-    static void refusedCallsChangeNothing() {
+    /** Term REFUSALS: "They change nothing", of the first part. */
+    static void refusedCallsOfTheRegisterChangeNothing() {
         NineSmells x = used();
-        long[] got = {x.register(4, 0, 0, 0), x.register(0, 3, 0, 0), x.register(3, 2, 0, 31), x.register(3, 2, 11, 10),
-            x.ofSign(3, 0), x.ofSign(0, 9), x.half(9, 1), x.half(0, 10), x.half(0, 0), x.bound(-1), x.bound(1000),
-            x.year(5), x.year(100), x.faded(3, 0, 0, 0), x.faded(0, 0, 1000, 0),
-            x.paper(0, 0, 0), x.paper(0, 3, 0), x.paper(0, 1, 10), x.ofPaper(2, 0), x.ofPaper(0, 6),
-            x.smells(2, 0, 6), x.smells(1, 0, 5), x.wash(2, 0), x.wash(0, 9), x.wash(0, -1), x.flood(0), x.flood(10),
-            x.far(2, 0, 1), x.far(0, 1, 1), x.fits(2, 0), x.fits(0, 3), x.again(2),
-            x.apart(3, 0), x.twins(-2), x.forged(0, 0, 0, 0, 0, 0), x.forged(0, 1, 0, 3, 0, 0),
-            x.forged(0, 1, 0, 0, 0, 1), x.near(3, 0, 0, 0), x.near(0, 1, 11, 0), x.steals(0, 0), x.fresh(5)};
-        int[] want = {-1, -2, -131, -110, -1, -2, -1, -2, -2, -2, -2, -2, -2, -1, -2, -1, -1, -2, -1, -2, -1, -2, -1, -1,
-            -1, -2, -2, -1, -1, -1, -2, -1, -1, -1, -1, -2, -2, -1, -2, -1, -2};
-        for (int k = 0; k < want.length; k++) {
-            C.due("refused call " + k, got[k], want[k]);
-        }
+        C.due("register(4, 0, 0, 0)", x.register(4, 0, 0, 0), -1);
+        C.due("register(0, 3, 0, 0)", x.register(0, 3, 0, 0), -2);
+        C.due("register(3, 2, 0, 31)", x.register(3, 2, 0, 31), -131);
+        C.due("register(3, 2, 11, 10)", x.register(3, 2, 11, 10), -110);
+        C.due("ofSign(3, 0)", x.ofSign(3, 0), -1);
+        C.due("ofSign(0, 9)", x.ofSign(0, 9), -2);
+        C.due("half(9, 1)", x.half(9, 1), -1);
+        C.due("half(0, 10)", x.half(0, 10), -2);
+        C.due("half(0, 0)", x.half(0, 0), -2);
+        C.due("bound(-1)", x.bound(-1), -2);
+        C.due("bound(1000)", x.bound(1000), -2);
+        C.due("year(5)", x.year(5), -2);
+        C.due("year(100)", x.year(100), -2);
+        C.due("faded(3, 0, 0, 0)", x.faded(3, 0, 0, 0), -1);
+        C.due("faded(0, 0, 1000, 0)", x.faded(0, 0, 1000, 0), -2);
         C.same("state", Checks.state(x), Checks.state(used()));
     }
 
-    /** Term REFUSALS: "They change nothing", of the parts 4 and 5. */
+    /** Term REFUSALS: "They change nothing", of the second part. */
+    static void refusedCallsOfPapersChangeNothing() {
+        NineSmells x = used();
+        C.due("paper(0, 0, 0)", x.paper(0, 0, 0), -1);
+        C.due("paper(0, 3, 0)", x.paper(0, 3, 0), -1);
+        C.due("paper(0, 1, 10)", x.paper(0, 1, 10), -2);
+        C.due("ofPaper(2, 0)", x.ofPaper(2, 0), -1);
+        C.due("ofPaper(0, 6)", x.ofPaper(0, 6), -2);
+        C.due("smells(2, 0, 6)", x.smells(2, 0, 6), -1);
+        C.due("smells(1, 0, 5)", x.smells(1, 0, 5), -2);
+        C.due("wash(2, 0)", x.wash(2, 0), -1);
+        C.due("wash(0, 9)", x.wash(0, 9), -1);
+        C.due("wash(0, -1)", x.wash(0, -1), -1);
+        C.due("flood(0)", x.flood(0), -2);
+        C.due("flood(10)", x.flood(10), -2);
+        C.due("far(2, 0, 1)", x.far(2, 0, 1), -1);
+        C.due("far(0, 1, 1)", x.far(0, 1, 1), -1);
+        C.due("fits(2, 0)", x.fits(2, 0), -1);
+        C.due("fits(0, 3)", x.fits(0, 3), -2);
+        C.due("again(2)", x.again(2), -1);
+        C.same("state", Checks.state(x), Checks.state(used()));
+    }
+
+    /** Term REFUSALS: "They change nothing", of the third part. */
+    static void refusedCallsOfAlikeOnesChangeNothing() {
+        NineSmells x = used();
+        C.due("apart(3, 0)", x.apart(3, 0), -1);
+        C.due("twins(-2)", x.twins(-2), -1);
+        C.due("forged(0, 0, 0, 0, 0, 0)", x.forged(0, 0, 0, 0, 0, 0), -1);
+        C.due("forged(0, 1, 0, 3, 0, 0)", x.forged(0, 1, 0, 3, 0, 0), -2);
+        C.due("forged(0, 1, 0, 0, 0, 1)", x.forged(0, 1, 0, 0, 0, 1), -2);
+        C.due("near(3, 0, 0, 0)", x.near(3, 0, 0, 0), -1);
+        C.due("near(0, 1, 11, 0)", x.near(0, 1, 11, 0), -2);
+        C.due("steals(0, 0)", x.steals(0, 0), -1);
+        C.due("fresh(5)", x.fresh(5), -2);
+        C.same("state", Checks.state(x), Checks.state(used()));
+    }
+
+    /** Term REFUSALS: "They change nothing", of the fourth and the fifth part. */
     static void refusedCallsOfSheetsChangeNothing() {
         NineSmells x = used();
-        long[] got = {x.who(0, 4, 0, 0), x.who(0, 0, 3, 0), x.who(4, 0, 0, 0), x.sheet(4, 0, 1), x.sheet(-1, 0, 1),
-            x.sheet(0, 3, 1), x.sheet(0, -1, 1), x.sheet(0, 0, 91), x.sheet(2, 0, 91), x.lose(4), x.lose(-1),
-            x.put(4, 0, 9), x.put(-1, 0, 9), x.copy(4, 0, 0, 0, 1), x.copy(0, 0, 4, 0, 1), x.tell(3), x.tell(-1),
-            x.stop(3), x.stop(-1), x.as(3, 0), x.as(0, 3), x.many(4)};
-        int[] want = {-1, -2, -2, -1, -1, -2, -2, -2, -2, -1, -1, -1, -1, -1, -1, -1, -1, -1, -1, -1, -2, -2};
-        for (int k = 0; k < want.length; k++) {
-            C.due("refused call " + k, got[k], want[k]);
-        }
-        C.due("odds, no SIGN", x.odds(3, 0, 0, 0, 0, 0), NineSmells.LOST);
-        C.due("odds, no WIND", x.odds(0, 4, 0, 0, 0, 0), NineSmells.LOST);
-        C.due("cell, no SHEET", x.cell(4, 0, 0), NineSmells.LOST);
-        C.due("cell, no LANE", x.cell(0, 0, 3), NineSmells.LOST);
+        C.due("who(0, 4, 0, 0)", x.who(0, 4, 0, 0), -1);
+        C.due("who(0, 0, 3, 0)", x.who(0, 0, 3, 0), -2);
+        C.due("who(4, 0, 0, 0)", x.who(4, 0, 0, 0), -2);
+        C.due("sheet(4, 0, 1)", x.sheet(4, 0, 1), -1);
+        C.due("sheet(-1, 0, 1)", x.sheet(-1, 0, 1), -1);
+        C.due("sheet(0, 3, 1)", x.sheet(0, 3, 1), -2);
+        C.due("sheet(0, -1, 1)", x.sheet(0, -1, 1), -2);
+        C.due("sheet(0, 0, 91)", x.sheet(0, 0, 91), -2);
+        C.due("sheet(2, 0, 91)", x.sheet(2, 0, 91), -2);
+        C.due("lose(4)", x.lose(4), -1);
+        C.due("lose(-1)", x.lose(-1), -1);
+        C.due("put(4, 0, 9)", x.put(4, 0, 9), -1);
+        C.due("put(-1, 0, 9)", x.put(-1, 0, 9), -1);
+        C.due("copy(4, 0, 0, 0, 1)", x.copy(4, 0, 0, 0, 1), -1);
+        C.due("copy(0, 0, 4, 0, 1)", x.copy(0, 0, 4, 0, 1), -1);
+        C.due("tell(3)", x.tell(3), -1);
+        C.due("tell(-1)", x.tell(-1), -1);
+        C.due("stop(3)", x.stop(3), -1);
+        C.due("stop(-1)", x.stop(-1), -1);
+        C.due("as(3, 0)", x.as(3, 0), -1);
+        C.due("as(0, 3)", x.as(0, 3), -2);
+        C.due("many(4)", x.many(4), -2);
+        C.due("odds(3, 0, 0, 0, 0, 0)", x.odds(3, 0, 0, 0, 0, 0), NineSmells.LOST);
+        C.due("odds(0, 4, 0, 0, 0, 0)", x.odds(0, 4, 0, 0, 0, 0), NineSmells.LOST);
+        C.due("cell(4, 0, 0)", x.cell(4, 0, 0), NineSmells.LOST);
+        C.due("cell(0, 0, 3)", x.cell(0, 0, 3), NineSmells.LOST);
         C.same("state", Checks.state(x), Checks.state(used()));
     }
 
@@ -351,19 +405,33 @@ public final class TermsTest {
     /** Term FAULTS: "and changes nothing". */
     static void faultyCallsChangeNothing() {
         NineSmells x = used();
-        long[] got = {x.register(2, 0, 0, 1), x.register(3, 1, 0, 32), x.register(3, 2, 1, 32), x.register(3, 2, 0, -1),
-            x.forged(0, 1, 2, 0, 0, 0), x.forged(0, 1, 0, 1, 0, 0), x.forged(0, 1, 0, 0, 0, 5),
-            x.forged(0, 1, 0, 0, 0, -1), x.who(0, 2, 0, 0), x.who(0, 0, 1, 0), x.who(0, 0, 0, 1), x.sheet(0, 2, -1),
-            x.sheet(2, 2, -1), x.put(2, 0, 1), x.put(0, -1, 1), x.put(0, 9, 1), x.copy(0, 0, 2, 0, 1),
-            x.copy(2, 0, 0, 0, 1), x.copy(0, 0, 1, 0, 1), x.copy(1, 0, 0, 0, 1), x.copy(0, 0, 0, 1, 9),
-            x.copy(0, 1, 0, 0, 9), x.copy(0, 2, 0, 3, -1), x.as(0, 1), x.as(1, 2)};
-        int[] want = {-11, -12, -13, -14, -11, -12, -13, -14, -11, -12, -13, -14, -14, -11, -13, -13, -11, -11, -12, -12,
-            -13, -13, -13, -12, -12};
-        for (int k = 0; k < want.length; k++) {
-            C.due("faulty call " + k, got[k], want[k]);
-        }
-        C.due("odds", x.odds(0, 0, 2, 0, 0, 0), NineSmells.LOST);
-        C.due("cell", x.cell(0, 9, 0), NineSmells.LOST);
+        C.due("register(2, 0, 0, 1)", x.register(2, 0, 0, 1), -11);
+        C.due("register(3, 1, 0, 32)", x.register(3, 1, 0, 32), -12);
+        C.due("register(3, 2, 1, 32)", x.register(3, 2, 1, 32), -13);
+        C.due("register(3, 2, 0, -1)", x.register(3, 2, 0, -1), -14);
+        C.due("forged(0, 1, 2, 0, 0, 0)", x.forged(0, 1, 2, 0, 0, 0), -11);
+        C.due("forged(0, 1, 0, 1, 0, 0)", x.forged(0, 1, 0, 1, 0, 0), -12);
+        C.due("forged(0, 1, 0, 0, 0, 5)", x.forged(0, 1, 0, 0, 0, 5), -13);
+        C.due("forged(0, 1, 0, 0, 0, -1)", x.forged(0, 1, 0, 0, 0, -1), -14);
+        C.due("who(0, 2, 0, 0)", x.who(0, 2, 0, 0), -11);
+        C.due("who(0, 0, 1, 0)", x.who(0, 0, 1, 0), -12);
+        C.due("who(0, 0, 0, 1)", x.who(0, 0, 0, 1), -13);
+        C.due("sheet(0, 2, -1)", x.sheet(0, 2, -1), -14);
+        C.due("sheet(2, 2, -1)", x.sheet(2, 2, -1), -14);
+        C.due("put(2, 0, 1)", x.put(2, 0, 1), -11);
+        C.due("put(0, -1, 1)", x.put(0, -1, 1), -13);
+        C.due("put(0, 9, 1)", x.put(0, 9, 1), -13);
+        C.due("copy(0, 0, 2, 0, 1)", x.copy(0, 0, 2, 0, 1), -11);
+        C.due("copy(2, 0, 0, 0, 1)", x.copy(2, 0, 0, 0, 1), -11);
+        C.due("copy(0, 0, 1, 0, 1)", x.copy(0, 0, 1, 0, 1), -12);
+        C.due("copy(1, 0, 0, 0, 1)", x.copy(1, 0, 0, 0, 1), -12);
+        C.due("copy(0, 0, 0, 1, 9)", x.copy(0, 0, 0, 1, 9), -13);
+        C.due("copy(0, 1, 0, 0, 9)", x.copy(0, 1, 0, 0, 9), -13);
+        C.due("copy(0, 2, 0, 3, -1)", x.copy(0, 2, 0, 3, -1), -13);
+        C.due("as(0, 1)", x.as(0, 1), -12);
+        C.due("as(1, 2)", x.as(1, 2), -12);
+        C.due("odds(0, 0, 2, 0, 0, 0)", x.odds(0, 0, 2, 0, 0, 0), NineSmells.LOST);
+        C.due("cell(0, 9, 0)", x.cell(0, 9, 0), NineSmells.LOST);
         C.same("state", Checks.state(x), Checks.state(used()));
     }
 
