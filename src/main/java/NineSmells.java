@@ -76,8 +76,6 @@ public final class NineSmells {
     }
 
     public NineSmells() {
-        // Never 0, not even without a REGISTER: years are divided by them.
-        Arrays.fill(halves, FIRST_HALF);
         for (int k = 0; k < SHEETS; k++) {
             sheets[k] = new Sheet();
         }
@@ -224,10 +222,12 @@ public final class NineSmells {
     }
 
     private int fade(Sign sign, int smell, int v, int years) {
-        if (sign.kind == SEAL) {
+        int half = halves[smell];
+        // No HALF is below 1 where there are SIGNS; a divisor is looked at all the same.
+        if (sign.kind == SEAL || half < 1) {
             return v;
         }
-        int over = years / halves[smell];
+        int over = years / half;
         int times = sign.kind == FIELD ? over / 2 : over;
         // A shift by 32 would be one by 0; no number here has as many as 31 bits.
         return v >> Math.min(times, 31);

@@ -97,18 +97,29 @@ public final class AlikeTest {
         C.dueFault(x, "without the last, by more BOUND", x.forged(0, 1, 1, 2, 0, 9), 256);
     }
 
-    /** Term FORGED: "(STRENGTHS with what is more)": of one SMELL by all of them, above 9 too. */
+    /** Term FORGED: "(STRENGTHS with what is more)": of one SMELL by all of them. */
     static void stoppersAddUp() {
         NineSmells x = Checks.registered("p900000000;p990000000;p000000000");
-        Checks.row(x, 0, 0, 0, 9, 1, 9, 1, 4, 1, 5);
-        x.bound(72);
-        C.dueFault(x, "none is enough", x.forged(0, 1, 0, 0, 0, 1), 0);
-        x.bound(71);
-        C.dueFault(x, "18 of SMELL 0 is not 9", x.forged(0, 1, 0, 0, 0, 1), -9);
-        C.dueFault(x, "by the other one", x.forged(0, 1, 0, 0, 0, 2), 2);
         x.bound(0);
-        C.dueFault(x, "4 and 5 are 9", x.forged(0, 1, 0, 0, 4, 2), 3);
-        C.dueFault(x, "they only add", x.forged(1, 0, 0, 0, 0, 4), -9);
+        Checks.row(x, 0, 0, 1, 4, 1, 5, 1, 9);
+        C.dueFault(x, "4 and 5 are 9", x.forged(0, 1, 0, 0, 0, 2), 3);
+        C.dueFault(x, "9 is 9", x.forged(0, 1, 0, 0, 0, 3), 4);
+        C.dueFault(x, "they only add", x.forged(1, 0, 0, 0, 0, 3), -9);
+    }
+
+    /** Term FORGED: "(STRENGTHS with what is more)", which may be above 9. */
+    static void stoppersAddUpAbove9() {
+        NineSmells x = Checks.registered("p500000000;p900000000");
+        Checks.row(x, 0, 0, 0, 9, 0, 2, 0, 3);
+        x.bound(0);
+        C.dueFault(x, "14 is not 9", x.forged(0, 1, 0, 0, 0, 1), -9);
+        C.dueFault(x, "10 is not 9", x.forged(0, 1, 0, 0, 2, 2), -9);
+        x.bound(8);
+        C.dueFault(x, "8 is as near as 10, and of fewer", x.forged(0, 1, 0, 0, 2, 2), 2);
+        x.bound(31);
+        C.dueFault(x, "14 is farther than 5", x.forged(0, 1, 0, 0, 0, 1), -9);
+        x.bound(32);
+        C.dueFault(x, "5 itself", x.forged(0, 1, 0, 0, 0, 1), 0);
     }
 
     /** Term FORGED: "the one of the fewest": two of greater numbers ahead of three of lesser ones. */

@@ -397,10 +397,10 @@ public final class DoorTest {
         NineSmells none = new NineSmells();
         none.sheet(0, 0, 9);
         C.dueFault(none, "without a REGISTER", none.who(0, 0, 0, 0), -9);
-        NineSmells fewer = Checks.registered("s000000000;s000000000;s900000000");
+        NineSmells fewer = door72("s000000000;s000000000;s900000000");
+        C.dueFault(fewer, "the third one", fewer.who(0, 0, 0, 0), 2);
         Checks.enter(fewer, "s000000000;s000000000");
-        Checks.row(fewer, 0, 0, 72, 0, 0, 0, 0, 0, 0, 0, 0);
-        C.dueFault(fewer, "one of an earlier REGISTER", fewer.who(0, 0, 0, 0), -9);
+        C.dueFault(fewer, "the third one of an earlier REGISTER", fewer.who(0, 0, 0, 0), -9);
     }
 
     /** Promise 24: "UNKNOWN: SHEET", ahead of all others. */

@@ -323,6 +323,24 @@ public final class PapersTest {
         C.due("02 nearer than 13, when WASHED", y.proved(), 1 + 4);
     }
 
+    /** Term PROVED: "and from every other PAIR farther than from them": one that has one of its two SIGNS, too. */
+    static void provedOnlyIfThoseOfOneAreFarther() {
+        NineSmells x = Checks.registered("s100000000;s100000000;s900000000;s090000000");
+        x.paper(1, 2, 0);
+        C.due("02 as near as 12", x.proved(), 0);
+        x.paper(0, 2, 0);
+        C.due("12 as near as 02", x.proved(), 0);
+        x.paper(2, 3, 0);
+        C.due("none as near as 23", x.proved(), 4);
+        NineSmells y = Checks.registered("s900000000;s100000000;s100000000;s090000000");
+        y.paper(0, 2, 0);
+        C.due("01 as near as 02", y.proved(), 0);
+        y.paper(1, 0, 0);
+        C.due("02 as near as 01", y.proved(), 0);
+        y.paper(0, 3, 0);
+        C.due("none as near as 03", y.proved(), 4);
+    }
+
     /** Term PROVED: "every other PAIR": its own two, turned, are none, and of two SIGNS there is none. */
     static void provedIfThereIsNoOther() {
         NineSmells x = Checks.registered("p100000000;p100000000");
