@@ -20,7 +20,7 @@ public final class NineSmells {
     private static final int LAST_YEAR = 99, MOST_FADING = 999, MOST_COLD = 9, MOST_FLOOD = 9;
     private static final int MOST_STRENGTH = 9, MOST_STOPPERS = 10, MOST_NEAR = 10;
     private static final int DOOR_HOURS = 10, MOST_WIND = 3, MOST_LEFT = 99;
-    private static final int NOT_SOUGHT = -1;
+    private static final int NOT_SOUGHT = -1, FARTHER_THAN_ALL = 0x7fffffff;
     private static final int PAPER_TIMES = 4, ALIKE_TIMES = 8, DOOR_TIMES = 8;
 
     private static final int PERSON_BODY = 1, FIELD_BODY = 2, SEAL_BODY = 3, LENT_BODY = 4, OWN_BODY = 5;
@@ -341,7 +341,7 @@ public final class NineSmells {
         smellPaper(papers[p], thisYear);
         int fitting = 0;
         int nearest = 0;
-        int least = Integer.MAX_VALUE;
+        int least = FARTHER_THAN_ALL;
         for (int x = 0; x < signCount; x++) {
             for (int y = x + 1; y < signCount; y++) {
                 int distance = smeltFrom(x, y);
@@ -596,7 +596,7 @@ public final class NineSmells {
 
     /** How far a smell of two SMELLS, strong by u and v, is from the SIGN that is the least APART from it. */
     private int leastApart(int first, int second, int u, int v) {
-        int least = Integer.MAX_VALUE;
+        int least = FARTHER_THAN_ALL;
         for (int x = 0; x < signCount; x++) {
             int[] strength = signs[x].strength;
             int others = signs[x].total - strength[first] - strength[second];
@@ -619,8 +619,7 @@ public final class NineSmells {
         if (all == 0) {
             return LOST;
         }
-        int upperOrLower = which == 0 ? hours[x] : all;
-        return upperOrLower / commonDivisor(hours[x], all);
+        return ofShare(hours[x], all, which);
     }
 
     public int who(int wind, int sheet, int lane, int i) {
@@ -677,14 +676,15 @@ public final class NineSmells {
         return sum;
     }
 
-    /** The greatest number by which both can be cut without rest; all is above 0. */
-    private static int commonDivisor(int own, int all) {
-        for (int d = all; d > 1; d--) {
-            if (own % d == 0 && all % d == 0) {
-                return d;
+    /** The upper (which 0) or lower number of a share, in least terms. */
+    private static int ofShare(int upper, int lower, int which) {
+        int number = which == 0 ? upper : lower;
+        for (int d = lower; d > 1; d--) {
+            if (upper % d == 0 && lower % d == 0) {
+                return number / d;
             }
         }
-        return 1;
+        return number;
     }
 
     // ---- 5 sheets, parts

@@ -8,6 +8,7 @@ import java.nio.file.Path;
 import java.util.List;
 import java.util.Set;
 import java.util.TreeSet;
+import java.util.regex.Matcher;
 import java.util.regex.Pattern;
 
 /** The document's face, and those rules of ../shared/LANGUAGE.md that can be read off the class. */
@@ -98,6 +99,40 @@ public final class LanguageTest {
             C.due(line, isImport && !line.equals("import java.util.Arrays;") ? 1 : 0, 0);
         }
         C.due("signs beyond 126", source.chars().filter(c -> c > 126).count(), 0);
+    }
+
+    /** Of the library's names only such stand in the class as rule 4 tells, and LOST's own of the document's face. */
+    static void library() throws IOException {
+        String code = Files.readString(SOURCE).replaceAll("/\\*\\*[^\n]*|// [^\n]*", "");
+        Set<String> told = Set.of("Math.min", "Math.max", "Math.abs", "Integer.bitCount", "System.arraycopy",
+            "Arrays.fill", "Long.MIN_VALUE");
+        Matcher name = Pattern.compile("\\b[A-Z]\\w*\\.\\w+").matcher(code);
+        Set<String> there = new TreeSet<>();
+        while (name.find()) {
+            there.add(name.group());
+        }
+        C.due("names of the library: " + there, told.containsAll(there) && !there.isEmpty() ? 1 : 0, 1);
+        Set<String> made = new TreeSet<>();
+        Matcher begun = Pattern.compile("\\bnew (\\w+)").matcher(code);
+        while (begun.find()) {
+            made.add(begun.group(1));
+        }
+        C.same("what is made", made.toString(), "[Paper, Sheet, Sign, int]");
+    }
+
+    /** A divisor is a number written out or a name of the class's constants; any other stands in `tested`. */
+    static void divisors() throws IOException {
+        Set<String> tested = Set.of("half", "d");
+        String code = Files.readString(SOURCE).replaceAll("/\\*\\*[^\n]*|// [^\n]*", "");
+        Matcher divisor = Pattern.compile("[/%]=? ?([(\\w]+)").matcher(code);
+        int found = 0;
+        while (divisor.find()) {
+            String by = divisor.group(1);
+            boolean isConstant = by.matches("[1-9]\\d*|[A-Z_]{2,}");
+            C.due("divided by " + by, isConstant || tested.contains(by) ? 1 : 0, 1);
+            found++;
+        }
+        C.due("found any", found > 0 ? 1 : 0, 1);
     }
 
     /** Methods stay below sixty lines: from a line that begins one to the brace that ends it. */

@@ -17,7 +17,7 @@ public final class RemarksTest {
     private static final Checks C = new Checks("RemarksTest");
     private static final Path DOCUMENT = Path.of("..", "shared", "DOC.md");
     private static final Path TESTS = Path.of("src", "test", "java");
-    private static final String NOT_OF_SENTENCES = "(Model|Language|Remarks)Test\\.java";
+    private static final String NOT_OF_SENTENCES = "(Model|Language|Remarks|Readme)Test\\.java";
     private static final Pattern TEST = Pattern.compile("    static void (\\w+)\\(\\).*\\{");
     private static final Pattern REMARK =
         Pattern.compile(" /\\*\\* (Promise \\d+|Term [A-Za-z ]+|What it is): (\".*) \\*/");
