@@ -39,6 +39,18 @@ public final class AlikeTest {
         }
     }
 
+    /** Term TWINS: "APART no more than BOUND by 8": as far as SIGNS can be, 81. */
+    static void twinsAsFarAsCanBe() {
+        NineSmells x = Checks.registered("p999999999;p000000000");
+        C.due("APART", x.apart(1, 0), 81);
+        x.bound(647);
+        C.due("BOUND 647", x.twins(-1), 0);
+        C.due("steals at BOUND 647: 1 hour is cut to nothing", x.steals(0, 1), 2);
+        x.bound(648);
+        C.due("BOUND 648", x.twins(-1), 1);
+        C.due("steals at BOUND 648", x.steals(0, 1), 0);
+    }
+
     /** Term TWINS: "APART no more than BOUND by 8": at BOUND 0 those that smell alike. */
     static void twinsAtBound0() {
         NineSmells x = Checks.registered("p123400000;f123400000;s123400000;p123500000");

@@ -152,6 +152,18 @@ public final class DoorTest {
         dueHours(y, 3, 8);
     }
 
+    /** Term A DOOR: "h times WIND more": hour 9 with WIND 3 is 36 years, four HALVES of 9; 35 are three. */
+    static void mostHoursAndWind() {
+        NineSmells x = door("p900000000;s400000000", 4, 0, 0, 0, 0, 0, 0, 0, 0);
+        x.half(0, 9);
+        // 72 becomes 4 in hour 9 alone.
+        dueOdds(x, 0, 3, 1, 1);
+        x.put(0, 0, 9);
+        // 18 and 9 by hours 5 to 8, 4 by hour 9; 32 of the SEAL.
+        x.bound(23);
+        dueShare(x, 0, 3, 5, 15);
+    }
+
     /**
      * Term MAY: "It MAY be: what it left is no farther from what is left (summed up) than BOUND": as far, but not one
      * more.
@@ -176,6 +188,34 @@ public final class DoorTest {
         C.dueFault(x, "none is as near as 1", x.who(0, 0, 0, 0), -9);
         x.bound(2);
         C.dueFault(x, "both are as near as 2", x.who(0, 0, 0, 0), 1);
+    }
+
+    /** Term MAY: "what is left (summed up)": 99 of each SMELL is 891 from one who left nothing. */
+    static void mayBeFromAllThatIsLeft() {
+        NineSmells x = door("s000000000;s000000000", 99, 99, 99, 99, 99, 99, 99, 99, 99);
+        x.bound(890);
+        C.dueFault(x, "BOUND 890", x.who(0, 0, 0, 0), -9);
+        x.bound(891);
+        C.dueFault(x, "BOUND 891", x.who(0, 0, 0, 0), 0);
+        NineSmells y = door("s999999999;s999999999", 0, 0, 0, 0, 0, 0, 0, 0, 0);
+        y.bound(647);
+        C.dueFault(y, "BOUND 647", y.who(0, 0, 0, 0), -9);
+        y.bound(648);
+        C.dueFault(y, "BOUND 648", y.who(0, 0, 0, 0), 0);
+    }
+
+    /** Term ODDS: "of all SIGNS and hours": ten of 80, if all of eight MAY be; ten of 71, if one has but one less. */
+    static void oddsOfAll80() {
+        String seven = "s900000000;s900000000;s900000000;s900000000;s900000000;s900000000;s900000000;";
+        NineSmells x = door72(seven + "s900000000");
+        dueOdds(x, 7, 0, 1, 8);
+        NineSmells y = door72(seven + "p900000000");
+        y.half(0, 9);
+        dueOdds(y, 0, 0, 10, 79);
+        dueOdds(y, 7, 0, 9, 79);
+        y.half(0, 1);
+        dueOdds(y, 6, 0, 10, 71);
+        dueOdds(y, 7, 0, 1, 71);
     }
 
     /** Term ODDS: "ODDS of a SIGN: of all SIGNS and hours that MAY be how many are its own.": none, some, all. */

@@ -257,6 +257,21 @@ public final class PapersTest {
         C.due("FAR", x.fits(0, 2), 12);
     }
 
+    /** Term NEAREST: "the least far", however far: DROWNED for nearly as many calls as an object has. */
+    static void nearestOfFarPaper() {
+        NineSmells x = Checks.registered("s000000000;s000000001;s000000002");
+        x.paper(0, 1, 0);
+        for (int k = 0; k < 470; k++) {
+            x.flood(9);
+        }
+        C.due("DROWNED", x.ofPaper(0, 5), 9 * 470);
+        C.due("smells", x.smells(0, 8, 99), 9 * 470 + 4);
+        C.due("FAR from its own", x.far(0, 1, 0), 9 * 9 * 470);
+        C.due("NEAREST", x.fits(0, 1), 12);
+        C.due("FAR", x.fits(0, 2), 9 * 9 * 470 - 8);
+        C.due("none FITS", x.fits(0, 0), 0);
+    }
+
     /** Term NEAREST: "of several the first". */
     static void nearestOfSeveral() {
         NineSmells x = Checks.registered("p100000000;p200000000;p300000000;p200000000;p400000000");

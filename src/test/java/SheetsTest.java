@@ -65,6 +65,12 @@ public final class SheetsTest {
         x.lose(0);
         x.sheet(0, 2, 30);
         C.due("lost between", x.cell(0, 3, 2), 0);
+        x.sheet(1, 0, 90);
+        x.put(1, 0, 7);
+        x.put(1, 89, 7);
+        x.sheet(1, 0, 90);
+        C.due("the first of 90", x.cell(1, 0, 0), 0);
+        C.due("the last of 90", x.cell(1, 89, 0), 0);
     }
 
     /**
