@@ -523,6 +523,18 @@ public final class AlikeTest {
         C.dueFault(x, "alike without", x.forged(0, 1, 0, 2, 0, 1), -2);
     }
 
+    /** Promise 19: "OUTSIDE: n, a SMELL", of the cells from i on, whatever stands ahead of them and behind them. */
+    static void forgedByNoSmellFromThereOn() {
+        NineSmells x = Checks.registered(THREE);
+        x.bound(0);
+        Checks.row(x, 0, 2, 9, 0, 1, 8, 1, 9, 1);
+        C.dueFault(x, "from 1", x.forged(0, 1, 0, 2, 1, 2), -9);
+        C.dueFault(x, "from 0", x.forged(0, 1, 0, 2, 0, 2), -2);
+        C.dueFault(x, "from 3", x.forged(0, 1, 0, 2, 3, 2), -2);
+        C.dueFault(x, "from 3, one", x.forged(0, 1, 0, 2, 3, 1), -9);
+        C.dueFault(x, "from 5", x.forged(0, 1, 0, 2, 5, 1), -2);
+    }
+
     /** Promise 19: "how much more.": OUTSIDE, of any STOPPER. */
     static void forgedByNoMore() {
         NineSmells x = Checks.registered(THREE);
@@ -627,6 +639,25 @@ public final class AlikeTest {
         String other = "p999999900;f999999900";
         Checks.enter(x, other);
         dueFresh(x, other, 81, 7, 8, 9, 9);
+    }
+
+    /** Promise 22: "A NEW SMELL": of the SIGNS that are, none of those ahead of them. */
+    static void freshOfAnotherRegister() {
+        String one = "s999999999;s888888888;s777777777";
+        NineSmells x = Checks.registered(one);
+        dueFresh(x, one, 63, 0, 1, 0, 0);
+        String other = "s900000000;s000000009;s000090000";
+        Checks.enter(x, other);
+        int[] want = freshOf(other);
+        dueFresh(x, other, 27, 1, 2, 9, 9);
+        dueFresh(x, "a new object's", want);
+        Checks.enter(x, "s100000000;s000000000");
+        dueFresh(x, "two SIGNS", freshOf("s100000000;s000000000"));
+    }
+
+    private static int[] freshOf(String text) {
+        NineSmells x = Checks.registered(text);
+        return new int[] {x.fresh(0), x.fresh(1), x.fresh(2), x.fresh(3), x.fresh(4)};
     }
 
     /** Promise 22: "OUTSIDE", ahead of STATE. */

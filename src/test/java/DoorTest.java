@@ -251,6 +251,17 @@ public final class DoorTest {
         C.dueFault(y, "five of the first one, ten of the last", y.who(0, 0, 0, 0), 2);
     }
 
+    /** Term WHO: "the SIGN of the most hours": each of eight by itself. */
+    static void whoOfEight() {
+        NineSmells x = door("s100000000;s010000000;s001000000;s000100000;s000010000;s000001000;s000000100;s000000010",
+            0, 0, 0, 0, 0, 0, 0, 0, 0);
+        for (int sign = 0; sign <= 7; sign++) {
+            x.put(0, sign, 8);
+            C.dueFault(x, "left by " + sign, x.who(0, 0, 0, 0), sign);
+            x.put(0, sign, 0);
+        }
+    }
+
     /** Term WHO: "of several the least". */
     static void whoOfSeveral() {
         NineSmells x = door72(THREE);
@@ -275,6 +286,29 @@ public final class DoorTest {
             C.dueLost(x, "one ahead", x.odds(1, 0, lane, lane, 0, 1), 0);
             C.dueLost(x, "one behind", x.odds(1, 0, lane, lane, 2, 1), 0);
         }
+    }
+
+    /** Promise 23: "by nine such cells": those of the SHEET that is told, whatever the others have. */
+    static void oddsOfOneSheet() {
+        NineSmells x = Checks.registered("s900000000;s090000000;s009000000;s000900000");
+        x.bound(0);
+        for (int k = 0; k <= 3; k++) {
+            x.sheet(k, 0, 9);
+            x.put(k, k, 72);
+        }
+        for (int k = 0; k <= 3; k++) {
+            for (int sign = 0; sign <= 3; sign++) {
+                C.due("sign " + sign + " by sheet " + k, x.odds(sign, 0, k, 0, 0, 0), sign == k ? 1 : 0);
+            }
+            C.due("who by sheet " + k, x.who(0, k, 0, 0), k);
+        }
+        x.put(0, 8, 100);
+        C.due("sheet 0 is no DOOR, sheet 1 is", x.odds(1, 0, 1, 0, 0, 0), 1);
+        C.dueLost(x, "sheet 0", x.odds(0, 0, 0, 0, 0, 0), 0);
+        x.bound(999);
+        x.put(0, 8, 0);
+        x.put(3, 8, 100);
+        C.dueLost(x, "sheet 3 is no DOOR, sheet 0 is", x.odds(0, 0, 3, 0, 0, 0), 0);
     }
 
     /** Promise 23: "UNKNOWN: SIGN", ahead of all FAULTS. */

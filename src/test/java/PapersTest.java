@@ -356,6 +356,24 @@ public final class PapersTest {
         C.due("none as near as 03", y.proved(), 4);
     }
 
+    /** Term PROVED: "from every other PAIR": of eight SIGNS each that smells as 0 does, to the last one. */
+    static void provedOnlyIfAllOfEightAreFarther() {
+        for (int alike = 1; alike <= 7; alike++) {
+            StringBuilder text = new StringBuilder();
+            for (int sign = 0; sign <= 7; sign++) {
+                StringBuilder strengths = new StringBuilder("000000000");
+                strengths.setCharAt(sign == alike ? 0 : sign, '9');
+                text.append(sign == 0 ? "s" : ";s").append(strengths);
+            }
+            NineSmells x = Checks.registered(text.toString());
+            int[] others = alike == 1 ? new int[] {2, 3} : alike == 2 ? new int[] {1, 3} : new int[] {1, 2};
+            x.paper(0, others[0], 0);
+            x.paper(others[0], others[1], 0);
+            x.paper(others[1], alike, 0);
+            C.due(alike + " as 0", x.proved(), 2);
+        }
+    }
+
     /** Term PROVED: "every other PAIR": its own two, turned, are none, and of two SIGNS there is none. */
     static void provedIfThereIsNoOther() {
         NineSmells x = Checks.registered("p100000000;p100000000");
@@ -590,6 +608,21 @@ public final class PapersTest {
         C.due("FIELD, ten years", x.smells(0, 1, 20), 18);
     }
 
+    /** Promise 10: "(no less than the one in which it was signed": of several PAPERS each has its own. */
+    static void smellsFromEachPapersYear() {
+        NineSmells x = Checks.registered("s100000000;s200000000;s300000000");
+        int[] signed = {0, 3, 7};
+        for (int p = 0; p < 3; p++) {
+            x.year(signed[p]);
+            x.paper(p, (p + 1) % 3, 0);
+        }
+        int[] want = {12, 20, 16};
+        for (int p = 0; p < 3; p++) {
+            C.due("paper " + p, x.smells(p, 0, signed[p]), want[p]);
+            C.due("paper " + p + ", a YEAR too early", x.smells(p, 0, signed[p] - 1), -2);
+        }
+    }
+
     /** Promise 10: "UNKNOWN: PAPER, SMELL", ahead of OUTSIDE. */
     static void smellsUnknown() {
         NineSmells x = three();
@@ -702,6 +735,20 @@ public final class PapersTest {
         C.due("DROWNED", x.far(0, 0, 1), 17 + 1 + 1 + 1 + 1 + 1 + 1 + 1 + 1);
         x.year(99);
         C.due("in YEAR 99", x.far(0, 1, 0), 35 + 35 + 1 + 3 + 7 + 1 + 1 + 1 + 1);
+    }
+
+    /** Promise 13: "FAR": of several PAPERS each by itself. */
+    static void farOfEachPaper() {
+        NineSmells x = Checks.registered("s100000000;s200000000;s300000000");
+        x.paper(0, 1, 0);
+        x.paper(1, 2, 0);
+        x.paper(2, 0, 0);
+        int[] from01 = {0, 8, 4};
+        int[] from02 = {4, 4, 0};
+        for (int p = 0; p < 3; p++) {
+            C.due("far(" + p + ", 0, 1)", x.far(p, 0, 1), from01[p]);
+            C.due("far(" + p + ", 2, 0)", x.far(p, 2, 0), from02[p]);
+        }
     }
 
     /** Promise 13: "UNKNOWN: PAPER, SIGNS". */
